@@ -523,7 +523,6 @@ public final class LuteTabs {
     /** Behind a change of the notes, or of where they may be, no laying means what it did. */
     private void startAnew() {
         isLaid = false;
-        Arrays.fill(laid, 0);
         for (int s = 0; s < SLOTS; s++) {
             kept[s] = false;
         }
@@ -1007,7 +1006,6 @@ public final class LuteTabs {
         }
 
         void forget() {
-            Arrays.fill(answers, 0);
             for (int i = 0; i < known.length; i++) {
                 known[i] = false;
             }
@@ -1262,7 +1260,7 @@ public final class LuteTabs {
     /** A row of items of a form, or lost. */
     private static final class Sheet {
         static final int MOST = 48;
-        static final int BYTES = 0, INTS = 1, LONGS = 2;
+        static final int BYTES = 0, LONGS = 2;
 
         boolean lost = true;
         int form = BYTES;
@@ -1290,13 +1288,7 @@ public final class LuteTabs {
         }
 
         void store(int i, long v) {
-            if (form == BYTES) {
-                items[i] = (byte) v;
-            } else if (form == INTS) {
-                items[i] = (int) v;
-            } else {
-                items[i] = v;
-            }
+            items[i] = form == BYTES ? (byte) v : v;
         }
     }
 }

@@ -298,8 +298,25 @@ public final class AgainstPlainTest {
         test.go();
     }
 
+    /** Many layings by hand of one crowded piece. */
+    private static void hands(int seed) {
+        AgainstPlainTest test = new AgainstPlainTest("hands", seed);
+        for (int c = 0; c < 5; c++) test.call("tune", c, 8 + test.below(4));
+        test.call("courses", 3 + test.below(3));
+        test.call("set", 4, 1 + test.below(9));
+        for (int i = 0; i < 9; i++) test.call("note", test.below(4), 9 + test.below(7), 1 + test.below(4));
+        while (test.calls < MOST_CALLS - 40) {
+            for (int n = 0; n < test.notes(); n++) test.call("lay", n, test.below(5));
+            for (int k = 0; k < test.chords(); k++) {
+                for (int what = 3; what <= 6; what++) test.call("chord", k, what);
+            }
+            test.call("wrong");
+            test.call("cost");
+        }
+    }
+
     /** All notes that there may be, in one search each. */
-    private static void long_(int seed) {
+    private static void longest(int seed) {
         AgainstPlainTest test = new AgainstPlainTest("long", seed);
         for (int c = 0; c < 5; c++) test.call("tune", c, 20 - 4 * c + test.below(4));
         for (int what = 2; what <= 4; what++) test.call("set", what, test.below(10));
@@ -315,7 +332,8 @@ public final class AgainstPlainTest {
         for (int seed = from; seed < from + times; seed++) {
             ordinary(seed);
             crowded(seed);
-            long_(seed);
+            longest(seed);
+            hands(seed);
         }
         due.end();
     }
