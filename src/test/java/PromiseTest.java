@@ -1,51 +1,5 @@
 /** What the document promises, promise by promise: ordinary calls, the edges that it names, wrong calls. */
-public final class PromiseTest {
-    private static final int NONE = LuteTabs.NONE, BAD = LuteTabs.BAD, NOT = LuteTabs.NOT, FULL = LuteTabs.FULL;
-    private static final int NULL = -11, INDEX = -12, CAST = -13, STORE = -14, SIZE = -15;
-    private static final int MIN = Integer.MIN_VALUE, MAX = Integer.MAX_VALUE;
-    private static final Due due = new Due();
-
-    private static void due(String call, long got, long want) {
-        due.due(call, got, want);
-    }
-
-    private static LuteTabs withNotes(int... told) {
-        LuteTabs x = new LuteTabs();
-        addNotes(x, told);
-        return x;
-    }
-
-    private static void addNotes(LuteTabs x, int... told) {
-        for (int i = 0; i < told.length; i += 3) {
-            if (x.note(told[i], told[i + 1], told[i + 2]) < 0) {
-                throw new IllegalStateException("note " + i / 3 + " was refused");
-            }
-        }
-    }
-
-    private static void layAll(LuteTabs x, int... on) {
-        for (int n = 0; n < on.length; n++) x.lay(n, on[n]);
-    }
-
-    private static void typeAll(LuteTabs x, String text) {
-        x.wipe();
-        for (char ch : text.toCharArray()) x.type(ch);
-    }
-
-    private static String tablature(LuteTabs x) {
-        StringBuilder text = new StringBuilder();
-        for (int i = 0; i < x.text(NONE); i++) text.append((char) x.text(i));
-        return text.toString();
-    }
-
-    /** A lute whose courses are all tuned to 10, and all settings but these as at first. */
-    private static LuteTabs alike(int courses) {
-        LuteTabs x = new LuteTabs();
-        for (int c = 0; c < 5; c++) x.tune(c, 10);
-        x.courses(courses);
-        return x;
-    }
-
+public final class PromiseTest extends Lutes {
     // ---- 1: a new object
 
     private static void newObject() {
@@ -197,11 +151,6 @@ public final class PromiseTest {
         due("7 none", x.count(0), 0);
         due("7 none", x.count(1), 0);
         losesLaying("7 clear", l -> l.clear(), 2);
-    }
-
-    private static void fill(LuteTabs x, int s, int form, int... items) {
-        x.sheet(s, form, items.length);
-        for (int i = 0; i < items.length; i++) x.put(s, form, i, items[i]);
     }
 
     /** The int by which an odd number makes 1, as ints wrap. */
