@@ -110,6 +110,36 @@ public final class FaceTest {
         }
     }
 
+    /** What the language's rule 11 counts, as far as it can be seen from outside. */
+    private static void limits() {
+        Class<?>[] inside = LuteTabs.class.getDeclaredClasses();
+        due.holds("twelve classes at most", inside.length + 1 <= 12);
+        for (int i = -1; i < inside.length; i++) {
+            Class<?> c = i < 0 ? LuteTabs.class : inside[i];
+            long fields = Arrays.stream(c.getDeclaredFields()).filter(f -> !Modifier.isStatic(f.getModifiers())).count();
+            due.holds(c + " has twenty fields at most", fields <= 20);
+            for (Method m : c.getDeclaredMethods()) {
+                due.holds(m + " takes seven parameters at most", m.getParameterCount() <= 7);
+            }
+        }
+    }
+
+    /** A method begins with a line that ends in "{" and ends with "}" at the same depth. */
+    private static void methodLengths() throws IOException {
+        String[] lines = Files.readString(Path.of("src/main/java/LuteTabs.java")).split("\n");
+        Pattern head = Pattern.compile("^( {4}| {8})(?! )(?!.*\\bclass\\b).*\\) \\{$");
+        int methods = 0;
+        for (int i = 0; i < lines.length; i++) {
+            Matcher m = head.matcher(lines[i]);
+            if (!m.matches() || lines[i].matches(" *(if|for|while|switch|}).*")) continue;
+            methods++;
+            int end = i;
+            while (end < lines.length && !lines[end].equals(m.group(1) + "}")) end++;
+            due.holds(lines[i].strip() + " is short", end - i + 1 <= 60);
+        }
+        due.holds("methods were found", methods > 60);
+    }
+
     private static String withoutComments(String text) {
         return text.replaceAll("(?s)/\\*.*?\\*/", "").replaceAll("//[^\n]*", "");
     }
@@ -132,6 +162,8 @@ public final class FaceTest {
         methods();
         fields();
         staticFields();
+        limits();
+        methodLengths();
         words();
         due.end();
     }

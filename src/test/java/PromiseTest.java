@@ -714,6 +714,23 @@ public final class PromiseTest extends Lutes {
         flawOf(x, "5:a---;5:a---;", 8);
         flawOf(x, "5:a---;4:a---;", 8);
         flawOf(x, "5:a---;49:a---;", NONE);
+        flawBehindAnother();
+        x = new LuteTabs();
+        x.set(0, 8);
+        x.courses(4);
+        flawOf(x, "0:i---;", NONE);
+        x.courses(2);
+        flawOf(x, "0:i---;", 4);
+        flawOf(x, "0:ai;", NONE);
+        typeAll(x, "0:a-;1");
+        x.type(255);
+        due("27 byte 255", x.flaw(), 6);
+    }
+
+    /** Apart from the others: an object is called 512 times at most. */
+    private static void flawBehindAnother() {
+        LuteTabs x = new LuteTabs();
+        x.courses(4);
         flawOf(x, "50:a---;3", 8);
         flawOf(x, "50:a---;5", 9);
         flawOf(x, "50:a---;50", 9);
@@ -736,14 +753,6 @@ public final class PromiseTest extends Lutes {
         flawOf(x, "198:a---;199", 12);
         flawOf(x, "199:a---;1", 9);
         flawOf(x, "199:a---;2", 9);
-        x.set(0, 8);
-        flawOf(x, "0:i---;", NONE);
-        x.courses(2);
-        flawOf(x, "0:i---;", 4);
-        flawOf(x, "0:ai;", NONE);
-        typeAll(x, "0:a-;1");
-        x.type(255);
-        due("27 byte 255", x.flaw(), 6);
     }
 
     private static void back() {
@@ -958,7 +967,10 @@ public final class PromiseTest extends Lutes {
         x.lay(2, 2);
         x.keep(2);
         digestOf(x);
-        x.go(0);
+        // A new one, since an object is called 512 times at most.
+        x = withNotes(0, 21, 4, 0, 13, 4, 2, 17, 1, 4, 22, 2, 4, 13, 2);
+        x.mend();
+        x.keep(0);
         typeAll(x, "0:a");
         digestOf(x);
         x.note(9, 70, 9);

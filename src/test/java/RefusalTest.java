@@ -436,8 +436,11 @@ public final class RefusalTest extends Lutes {
             }
         }
         for (int n : new int[] {1, -1}) {
-            refused("copy from a lost one", BUSY, x -> x.copy(3, 0, 0, 0, n), NULL);
-            refused("copy to a lost one", BUSY, x -> x.copy(0, 0, 3, 0, n), NULL);
+            for (int s = 0; s < 3; s++) {
+                int other = s;
+                refused("copy from a lost one to a row of form " + s, BUSY, x -> x.copy(3, 0, other, 0, n), NULL);
+                refused("copy to a lost one from a row of form " + s, BUSY, x -> x.copy(other, 0, 3, 0, n), NULL);
+            }
             refused("copy of a lost one to itself", BUSY, x -> x.copy(3, 0, 3, 0, n), NULL);
             for (int s = 0; s < 3; s++) {
                 int from = s;

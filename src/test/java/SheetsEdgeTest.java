@@ -232,6 +232,12 @@ public final class SheetsEdgeTest extends Lutes {
         due("s", x.copy(3, 0, 0, 0, 1), NULL);
         due("t", x.copy(0, 0, 3, 0, 1), NULL);
         due("both", x.copy(2, 0, 3, 0, 0), NULL);
+        due("a lost one has no form that is unlike", x.copy(1, 0, 3, 0, 1), NULL);
+        due("a lost one has no form that is unlike", x.copy(3, 0, 1, 0, 1), NULL);
+        x.sheet(3, 2, 1);
+        x.lose(3);
+        due("whatever form it had", x.copy(0, 0, 3, 0, 1), NULL);
+        due("whatever form it had", x.copy(3, 0, 1, 0, 1), NULL);
         due("NULL comes ahead of INDEX", x.copy(0, -1, 3, 99, -1), NULL);
         due("finding", x.count(8), 1);
         due("unlike forms", x.copy(0, 0, 1, 0, 1), STORE);

@@ -235,6 +235,13 @@ public final class TermsTest extends Lutes {
         addNotes(ended, 0, 12, 3, 3, 12, 1);
         layAll(ended, 0, 1);
         due("the one ended as the other began", ended.chord(1, 5), 0);
+        LuteTabs behind = alike(5);
+        addNotes(behind, 0, 12, 1, 0, 12, 1, 1, 10, 1, 1, 10, 1);
+        layAll(behind, 0, 1, 0, 1);
+        due("open ones behind a bar", behind.chord(1, 5), 0);
+        due("their fingers", behind.chord(1, 4), 0);
+        due("their cost", behind.chord(1, 6), 0);
+        due("least", behind.least(), 3);
     }
 
     @Says(promise = 0, words = "no one SOUNDING at FRET 0 is on a COURSE between the least and the greatest of these")
@@ -252,6 +259,22 @@ public final class TermsTest extends Lutes {
         layAll(held, 1, 0, 2, 3);
         due("a held open one", held.chord(1, 5), 0);
         due("when it has ended", held.chord(2, 5), 1);
+    }
+
+    @Says(promise = 0, words = "between the least and the greatest of these")
+    private static void barOfEachTwoCourses() {
+        LuteTabs x = alike(5);
+        // The chord ahead has LOW on the outermost courses: nothing of it counts at the next one.
+        addNotes(x, 0, 13, 1, 0, 13, 1, 1, 10, 1, 1, 12, 1, 1, 12, 1);
+        for (int least = 0; least < 5; least++) {
+            for (int greatest = least + 1; greatest < 5; greatest++) {
+                for (int open = 0; open < 5; open++) {
+                    layAll(x, 0, 4, open, greatest, least);
+                    boolean between = open > least && open < greatest;
+                    due(least + " to " + greatest + ", open " + open, x.chord(1, 5), between ? 0 : 1);
+                }
+            }
+        }
     }
 
     @Says(promise = 0, words = "FINGERS: how many SOUNDING have FRETS above 0, all of the BAR as one")
@@ -331,6 +354,10 @@ public final class TermsTest extends Lutes {
         open.set(0, 9);
         open.set(1, 0);
         due("fret 0 is not of the span", open.count(3), 1);
+        LuteTabs allOpen = atTen(0, 10, 1, 0, 10, 1);
+        allOpen.set(1, 0);
+        due("no fret above 0, SPAN 0", allOpen.mend(), 0);
+        due("no fret above 0, SPAN 0", allOpen.wrong(), 0);
     }
 
     // ---- costs
@@ -429,6 +456,24 @@ public final class TermsTest extends Lutes {
         due("a cheaper one is not good", x.cost(), 1);
         due("a cheaper one is not good", x.wrong(), 1);
         due("least stays", x.least(), 2);
+    }
+
+    @Says(promise = 0, words = "A LAYING is a COURSE for each NOTE.")
+    private static void heldNotesStay() {
+        LuteTabs x = new LuteTabs();
+        x.courses(2);
+        x.tune(0, 14);
+        x.tune(1, 10);
+        x.set(0, 9);
+        x.set(1, 4);
+        // 15 and 19 can't be at frets 1 and 9; at 5 and 5 the first of them leaves course 0 to 23.
+        addNotes(x, 0, 15, 2, 0, 19, 1, 1, 23, 1);
+        due("mend", x.mend(), 3 + 1);
+        dueText("courses", laying(x), "100");
+        x.gone(1);
+        x.note(0, 19, 2);
+        due("the second is held there, too", x.mend(), NOT);
+        due("at chord 1", x.fault(), 1);
     }
 
     @Says(promise = 0, words = "of like ones the one whose COURSE of NOTE 0 is the least, of like ones of NOTE 1, and so on")
