@@ -11,7 +11,7 @@ public final class AgainstPlainTest {
     private final PlainLute plain = new PlainLute();
     private final StringBuilder told = new StringBuilder();
     private int calls = 0;
-    /** How many notes a run may have: with many courses for each the plain way takes long. */
+    /** How many notes a run may have: PlainLute tries all layings of few, so some runs stay with few. */
     private int mostNotes;
     private int lowest;
     private int highest;
@@ -288,7 +288,7 @@ public final class AgainstPlainTest {
     /** Courses so near to each other that notes have many places, bars and crowded hands. */
     private static void crowded(int seed) {
         AgainstPlainTest test = new AgainstPlainTest("crowded", seed);
-        test.mostNotes = 7;
+        test.mostNotes = 6 + test.below(9);
         test.lowest = 10;
         test.highest = 20;
         for (int c = 0; c < 5; c++) test.call("tune", c, 8 + test.below(5));
@@ -326,6 +326,20 @@ public final class AgainstPlainTest {
         test.call("digest");
     }
 
+    /** So many layings of like cost that the order of courses tells which is the best. */
+    private static void likeOnes(int seed) {
+        AgainstPlainTest test = new AgainstPlainTest("like", seed);
+        for (int c = 0; c < 5; c++) test.call("tune", c, 10 + test.below(3));
+        test.call("courses", 3 + test.below(3));
+        test.call("set", 1, 3 + test.below(4));
+        for (int what = 2; what <= 4; what++) test.call("set", what, test.below(2));
+        for (int i = 0; i < 20; i++) test.call("note", test.below(24), 12 + test.below(6), 1 + test.below(4));
+        test.call("mend");
+        for (int n = 0; n < 14; n++) test.call("info", n, 5);
+        test.call("text", LuteTabs.NONE);
+        test.call("digest");
+    }
+
     public static void main(String[] args) {
         int times = args.length > 0 ? Integer.parseInt(args[0]) : 40;
         int from = args.length > 1 ? Integer.parseInt(args[1]) : 0;
@@ -333,6 +347,7 @@ public final class AgainstPlainTest {
             ordinary(seed);
             crowded(seed);
             longest(seed);
+            likeOnes(seed);
             hands(seed);
         }
         due.end();

@@ -150,6 +150,11 @@ public final class FaceTest {
             .split(" ")) {
             due.holds("no " + word, !Pattern.compile("\\b" + Pattern.quote(word) + "\\b").matcher(text).find());
         }
+        Set<String> library = Set.of("Arrays.fill", "System.arraycopy", "Math.min", "Math.max", "Math.abs", "Integer.bitCount");
+        Matcher calls = Pattern.compile("\\b(Arrays|System|Math|Integer|Long|String)\\.\\w+").matcher(text);
+        while (calls.find()) {
+            due.holds(calls.group() + " is of the library that the language leaves", library.contains(calls.group()));
+        }
         due.holds("no lambda", !text.contains("->"));
         due.holds("no method reference", !text.contains("::"));
         Matcher imports = Pattern.compile("import ([^;]*);").matcher(text);

@@ -1,13 +1,18 @@
 import java.util.ArrayList;
 import java.util.Arrays;
+import java.util.HashMap;
 import java.util.List;
+import java.util.Map;
 
 /**
- * The document once more, as plainly and as slowly as its words go, to set LuteTabs against. It keeps
- * to none of LuteTabs' ways: layings are tried one by one, texts are compared with whole ones.
+ * The document once more, as plainly as its words go, to set LuteTabs against. It keeps to none of
+ * LuteTabs' ways: layings are tried from the first note on, texts are compared with whole ones.
  */
 final class PlainLute {
     private static final int NONE = -1, BAD = -2, NOT = -3, FULL = -4;
+
+    /** Layings of so many notes are all tried one by one; of more, what was found once is known. */
+    private static final int FEW = 6;
 
     private int courses = 5;
     private final int[] open = {20, 15, 11, 6, 0};
@@ -19,7 +24,7 @@ final class PlainLute {
     private final Object[] sheets = new Object[4];
     private int latest = 0;
 
-    private int searchCost;
+    private final Map<String, int[]> known = new HashMap<>();
     private int[] searchBest;
 
     long call(String name, int... a) {
@@ -268,35 +273,63 @@ final class PlainLute {
         return wrong;
     }
 
-    /** Tries the courses of notes n on in their order; only a lesser cost is taken, so the first of like ones stays. */
-    private void tryFrom(int n, int[] on, int chord, int cost, int chords, int leftOut) {
-        if (n == notes.size() || chord == chords) {
-            searchCost = cost;
-            searchBest = on.clone();
-            return;
-        }
-        boolean endsChord = n + 1 == notes.size() || notes.get(n + 1)[0] != notes.get(n)[0];
+    /**
+     * Tries the courses of note n and those behind it, up to a chord, in their order; only a lesser cost
+     * is taken, so the first of like ones stays. Answers the cost, then the courses; null: none is good.
+     */
+    private int[] bestFrom(int n, int[] on, int chords, int leftOut) {
+        if (n == notes.size() || chordOf(n) == chords) return new int[1];
+        boolean beginsChord = n == 0 || chordOf(n) != chordOf(n - 1);
+        String seen = beginsChord && notes.size() > FEW ? seenFrom(chordOf(n), on) : null;
+        if (seen != null && known.containsKey(seen)) return known.get(seen);
+        int[] best = null;
         for (int c = 0; c < courses; c++) {
             on[n] = c;
-            if (c == leftOut || !playable(fret(n, on))) continue;
-            if (!endsChord) {
-                tryFrom(n + 1, on, chord, cost, chords, leftOut);
-            } else if (wrongsOfChord(chord, on) == 0) {
-                int more = cost + chordCost(chord, on);
-                if (searchCost == NONE || more < searchCost) tryFrom(n + 1, on, chord + 1, more, chords, leftOut);
+            int[] rest = c == leftOut || !playable(fret(n, on)) ? null : bestBehind(n, on, chords, leftOut);
+            if (rest != null && (best == null || rest[0] < best[0])) {
+                best = new int[rest.length + 1];
+                best[0] = rest[0];
+                best[1] = c;
+                System.arraycopy(rest, 1, best, 2, rest.length - 1);
             }
         }
+        if (seen != null) known.put(seen, best);
+        return best;
+    }
+
+    /** As bestFrom, of the notes behind note n, with the cost of its chord if that is whole now. */
+    private int[] bestBehind(int n, int[] on, int chords, int leftOut) {
+        boolean endsChord = n + 1 == notes.size() || chordOf(n + 1) != chordOf(n);
+        if (!endsChord) return bestFrom(n + 1, on, chords, leftOut);
+        if (wrongsOfChord(chordOf(n), on) != 0) return null;
+        int cost = chordCost(chordOf(n), on);
+        int[] rest = bestFrom(n + 1, on, chords, leftOut);
+        if (rest == null) return null;
+        int[] all = rest.clone();
+        all[0] += cost;
+        return all;
+    }
+
+    private int chordOf(int n) {
+        return Arrays.binarySearch(chordTimes(), notes.get(n)[0]);
+    }
+
+    /** All that a chord and those behind it see of what is laid: the notes that sound at the chord ahead. */
+    private String seenFrom(int k, int[] on) {
+        StringBuilder seen = new StringBuilder().append(k);
+        if (k > 0) sounding(k - 1).forEach(n -> seen.append(' ').append(on[n]));
+        return seen.toString();
     }
 
     private int search(int higher, int leftOut, int chords) {
-        searchCost = NONE;
-        searchBest = null;
+        known.clear();
         List<int[]> was = notes;
         notes = new ArrayList<>();
         for (int[] n : was) notes.add(new int[] {n[0], n[1] + higher, n[2]});
-        tryFrom(0, new int[was.size()], 0, 0, chords, leftOut);
+        int[] best = bestFrom(0, new int[was.size()], chords, leftOut);
         notes = was;
-        return searchCost;
+        searchBest = best == null ? null : Arrays.copyOfRange(best, 1, best.length);
+        return best == null ? NONE : best[0];
     }
 
     private int leastOr(int higher, int leftOut, int otherwise) {
